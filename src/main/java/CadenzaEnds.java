@@ -585,10 +585,11 @@ public final class CadenzaEnds {
         }
 
         void addPlayed(long[] from, long[] to, int reach) {
+            long weight = playedOf8();
             for (int i = 0; i < count; i++) {
                 int length = lengths[i];
                 for (int t = 0; t <= reach && t + length < to.length; t++) {
-                    to[t + length] += from[t] * playedOf8();
+                    to[t + length] += from[t] * weight;
                 }
             }
         }
