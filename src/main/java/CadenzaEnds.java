@@ -1,6 +1,9 @@
 import java.util.Arrays;
 
-/** Out of the cadenza: when it ends, when to go, whom to follow. The document ../shared/DOC.md says what each call answers. */
+/**
+ * Out of the cadenza: when it ends, when to go, whom to follow.
+ * The document ../shared/DOC.md says what each call answers.
+ */
 public final class CadenzaEnds {
     public static final int NONE = -1, UNKNOWN = -1000000001, OUTSIDE = -1000000002, NOT = -1000000003, FULL = -1000000004;
 
@@ -807,7 +810,6 @@ public final class CadenzaEnds {
         }
 
         private void readLengths(Part part) {
-            part.count = 0;
             boolean more = true;
             for (int i = 0; i < MOST_LENGTHS && more; i++) {
                 part.lengths[i] = number(1, LONGEST);
@@ -927,7 +929,10 @@ public final class CadenzaEnds {
         }
     }
 
-    /** When PARTS begin and when all ends, as weights: choices[p] is what all ways through the PARTS ahead of p come to. */
+    /**
+     * When PARTS begin and when all ends, as weights:
+     * choices[p] is what the weights of all ways through the PARTS ahead of p come to.
+     */
     private static final class EndOdds {
         final long[][] begins = new long[MOST_PARTS + 1][LAST_TENTH + 1];
         final long[] choices = new long[MOST_PARTS + 1];
@@ -936,12 +941,11 @@ public final class CadenzaEnds {
         int parts;
 
         void weigh(Hall hall) {
-            parts = hall.parts;
-            Arrays.fill(begins[0], 0);
+            parts = Math.min(hall.parts, MOST_PARTS);
             begins[0][0] = 1;
             choices[0] = 1;
             int reach = 0;
-            for (int p = 0; p < parts && p < MOST_PARTS; p++) {
+            for (int p = 0; p < parts; p++) {
                 Part part = hall.row[p];
                 Arrays.fill(begins[p + 1], 0);
                 part.addLeftOut(begins[p], begins[p + 1], reach);
@@ -1001,6 +1005,7 @@ public final class CadenzaEnds {
             return LAST_TENTH;
         }
 
+        /** GO and LIFT are one sum: to go waits by E and needs no time; an arm waits by H and needs r. */
         long cost(int waiting, int late, int at, int delay) {
             long waited = tenthsBy(LAST_TENTH) - tenthsBy(at) - at * (all() - endedBy(at));
             int ready = at + delay;
@@ -1049,7 +1054,7 @@ public final class CadenzaEnds {
             reach[parts] = 0;
             rows[parts][0] = 1;
             for (int set = 0; set < 1 << parts; set++) {
-                // Rows go down from the last PART: only PARTS up to the highest bit that has just changed are due again.
+                // Rows go down from the last PART: only those up to the highest bit that has just changed are due again.
                 int changed = Math.min(parts, Integer.bitCount(set ^ (set - 1)));
                 for (int p = changed - 1; p >= 0; p--) {
                     choose(hall.row[p], p, (set >> p & 1) == 1);

@@ -1,3 +1,5 @@
+import java.util.Random;
+
 /** Promises 15 to 25, 29 to 32: by hand, with the edges and the refusals (many halls more: OracleTest). */
 public final class EndTest {
     private static final int UNKNOWN = CadenzaEnds.UNKNOWN;
@@ -109,6 +111,33 @@ public final class EndTest {
         Due.is("help of nobody", Due.in("p0 0 0 1;").help(0, 0), CadenzaEnds.NONE);
         CadenzaEnds like = Due.in("p0 0 0 1;i0 3;i5 0;i0 0;i0 0;");
         Due.is("like ones", like.help(0, 0), 2);
+        helps();
+    }
+
+    private static void helps() {
+        Random random = new Random(11);
+        for (int round = 0; round < 200; round++) {
+            int key = random.nextInt(12);
+            int many = random.nextInt(6);
+            int[][] rows = new int[many][2];
+            StringBuilder text = new StringBuilder("p0 0 " + key + " 1;");
+            for (int[] row : rows) {
+                row[0] = random.nextInt(12);
+                row[1] = random.nextInt(round % 2 == 0 ? 100 : 20);
+                text.append('i').append(row[0]).append(' ').append(row[1]).append(';');
+            }
+            CadenzaEnds x = Due.in(text.toString());
+            for (int k = 0; k < 12; k++) {
+                int best = -1;
+                int least = Integer.MAX_VALUE;
+                for (int i = many - 1; i >= 0; i--) {
+                    int effort = rows[i][1] + 5 * Oracle.steps(k, rows[i][0]) + 3 * Oracle.steps(rows[i][0], key);
+                    best = effort <= least ? i : best;
+                    least = Math.min(least, effort);
+                }
+                Due.is(text + " help " + k, x.help(0, k), best);
+            }
+        }
     }
 
     private static void out() {

@@ -9,6 +9,7 @@ public final class HallTest {
         newObject();
         feeding();
         halls();
+        hallBehindHall();
         telling();
         rows();
         Due.end("HallTest");
@@ -86,6 +87,23 @@ public final class HallTest {
         Due.is("judge", x.judge(), CadenzaEnds.NONE);
         Due.is("out of 0", x.out(0, 0), 1);
         Due.is("out of 92", x.out(92, 0), 0);
+    }
+
+    private static void hallBehindHall() {
+        CadenzaEnds x = Due.in(TEXT);
+        for (int round = 0; round < 4; round++) {
+            change(x);
+            Due.is("hall", Due.hall(x, round % 2 == 0 ? "p0 1 0 10,20;p1 1 1 1;l1 2;l3 4;l5 6;" : TEXT), round % 2 == 0 ? 2 : 4);
+            int[] due = round % 2 == 0 ? new int[] {8, 0, 3, 2, 1} : new int[] {6, 2, 5, 4, 9};
+            for (int i = 0; i < 5; i++) {
+                Due.is("told " + (4 + i) + " of a new hall", x.told(4 + i), due[i]);
+            }
+            for (int what = 9; what < 14; what++) {
+                Due.is("told " + what + " of a new hall", x.told(what), 0);
+            }
+            Due.is("player of a new hall", x.player(0, 0), round % 2 == 0 ? 1 : 4);
+            Due.is("no image", x.goBack(0), CadenzaEnds.NOT);
+        }
     }
 
     private static void change(CadenzaEnds x) {

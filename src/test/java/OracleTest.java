@@ -11,12 +11,20 @@ public final class OracleTest {
         }
         Oracle widest = widest();
         compare(widest, Due.in(widest.text()));
-        CadenzaEnds again = Due.in(widest.text());
-        again.out(420, 0);
-        Oracle small = some(3, 9);
-        Due.is("hall()", Due.hall(again, small.text()), 3);
-        compare(small, again);
+        oneObjectInManyHalls(widest);
         Due.end("OracleTest");
+    }
+
+    /** Rows are used again from hall to hall: nothing of an earlier one may show. */
+    private static void oneObjectInManyHalls(Oracle widest) {
+        CadenzaEnds x = Due.in(widest.text());
+        x.out(420, 0);
+        for (int round = 0; round < 60; round++) {
+            int parts = RANDOM.nextInt(6);
+            Oracle oracle = some(parts, round % 2 == 0 ? 2 : 60);
+            Due.is("hall()", Due.hall(x, oracle.text()), parts);
+            compare(oracle, x);
+        }
     }
 
     private static Oracle some(int parts, int longest) {

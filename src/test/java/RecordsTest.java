@@ -47,6 +47,10 @@ public final class RecordsTest {
         Due.is("told 12", x.told(12), 12);
         Due.is("firstIn", x.firstIn(1), 40);
         Due.is("ahead 999", x.ahead(999), 11);
+        CadenzaEnds one = Due.in("l1 1;");
+        one.enter(0, 3);
+        Due.is("ahead 4", one.ahead(4), 1);
+        Due.is("ahead 3", one.ahead(3), 0);
     }
 
     private static void writing() {
