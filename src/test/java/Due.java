@@ -1,9 +1,18 @@
+import java.util.List;
+import java.util.function.LongSupplier;
+
 /** Counts and prints the answers that are not the ones that are due. */
 final class Due {
     private static int wrong = 0;
     private static int asked = 0;
+    private static String about = "";
 
     private Due() {
+    }
+
+    /** What stands ahead of every line that is printed from here on. */
+    static void about(String what) {
+        about = what;
     }
 
     static void is(String call, long got, long want) {
@@ -11,7 +20,7 @@ final class Due {
         if (got != want) {
             wrong++;
             if (wrong <= 50) {
-                System.out.println(call + " answered " + got + ", due is " + want);
+                System.out.println(about + call + " answered " + got + ", due is " + want);
             }
         }
     }
@@ -19,6 +28,13 @@ final class Due {
     static void odds(String call, long above, long below, long wantAbove, long wantBelow) {
         is(call + " above", above, wantAbove);
         is(call + " below", below, wantBelow);
+    }
+
+    /** A refusal: the answer that is due, and nothing is changed by the call. */
+    static void refused(CadenzaEnds x, String call, LongSupplier answer, long want) {
+        List<Long> was = State.of(x);
+        is(call, answer.getAsLong(), want);
+        is(call + " changes nothing", was.equals(State.of(x)) ? 1 : 0, 1);
     }
 
     static void end(String name) {

@@ -1,6 +1,5 @@
 import java.lang.reflect.InvocationTargetException;
 import java.lang.reflect.Method;
-import java.util.ArrayList;
 import java.util.Arrays;
 import java.util.Comparator;
 import java.util.List;
@@ -37,39 +36,15 @@ public final class RefusalTest {
             numbers[i] = RANDOM.nextInt(3) == 0 ? ODD[RANDOM.nextInt(ODD.length)] : RANDOM.nextInt(9);
         }
         String name = call.getName() + Arrays.toString(numbers);
-        List<Long> was = state(x);
+        List<Long> was = State.of(x);
         try {
             long answer = ((Number) call.invoke(x, numbers)).longValue();
             boolean refused = answer <= CadenzaEnds.UNKNOWN && answer >= CadenzaEnds.FULL;
             if (refused || !CHANGING.contains(call.getName())) {
-                Due.is(name + " changes nothing", was.equals(state(x)) ? 1 : 0, 1);
+                Due.is(name + " changes nothing", was.equals(State.of(x)) ? 1 : 0, 1);
             }
         } catch (InvocationTargetException thrown) {
             Due.is(name + " threw " + thrown.getCause(), 1, 0);
         }
-    }
-
-    private static List<Long> state(CadenzaEnds x) {
-        List<Long> all = new ArrayList<>();
-        for (int what = 0; what < 14; what++) {
-            all.add((long) x.told(what));
-        }
-        for (int p = 0; p < 7; p++) {
-            for (int i = 0; i < 4; i++) {
-                all.add((long) x.part(p, i));
-                all.add((long) x.length(p, i));
-                all.add((long) x.player(p, i));
-                all.add((long) x.instrument(p, i));
-            }
-        }
-        int seed = x.seed(0);
-        x.seed(seed);
-        all.add((long) seed);
-        all.add((long) x.fault());
-        all.add((long) x.firstIn(0));
-        all.add((long) x.firstIn(1));
-        all.add((long) x.ahead(10));
-        all.add((long) x.judge());
-        return all;
     }
 }
