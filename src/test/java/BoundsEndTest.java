@@ -22,6 +22,7 @@ public final class BoundsEndTest {
         isItBounds();
         isItLasts();
         isItShows();
+        isItAll();
         isItNone();
         goBounds();
         bestGoLikeOnes();
@@ -215,6 +216,13 @@ public final class BoundsEndTest {
         isIt(x, 0, 20, 2);
         isIt(x, 20, 9, 2, 1, 1);
         isIt(x, 20, 10, 2);
+        // at 0: 3 of 8 for the false end, 5 of 8 for the trill, by as many of four as last so long
+        CadenzaEnds four = Due.in("p2 5 0 10,20,30,40;p3 0 0 9,19,29,39;");
+        isIt(four, 0, 8, 2, 5, 8);
+        isIt(four, 0, 9, 2, 5, 9);
+        isIt(four, 0, 38, 2, 5, 8);
+        isIt(four, 0, 39, 2, 0, 1);
+        isIt(four, 0, 40, 2);
         CadenzaEnds longest = Due.in("p3 0 0 60;");
         isIt(longest, 0, 59, 2, 1, 1);
         isIt(longest, 0, 60, 2);
@@ -244,6 +252,19 @@ public final class BoundsEndTest {
         x.sign(7, 1);
         isIt(x, 0, 0, 1, 7, 10);
         isIt(x, 0, 0, 0, 1, 22);
+    }
+
+    private static void isItAll() {
+        Doc.says(Doc.TERMS, "odds that it is of SORT 3 (of all that begin so, with what they show)");
+        CadenzaEnds x = Due.in("p2 4 0 10;p2 4 0 10;p3 0 0 10;");
+        // at 0: false ends by 1 of 2 and 1 of 4, the trill by 1 of 4; at 10: by 1 of 4 the second, by 1 of 2 the trill
+        isIt(x, 0, 0, 2, 1, 4);
+        isIt(x, 10, 0, 2, 2, 3);
+        isIt(x, 20, 0, 2, 1, 1);
+        x.sign(2, 1);
+        isIt(x, 0, 0, 1, 2, 5);
+        isIt(x, 10, 0, 1, 4, 5);
+        isIt(x, 0, 0, 0, 2, 9);
     }
 
     private static void isItNone() {

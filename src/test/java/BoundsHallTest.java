@@ -17,6 +17,7 @@ public final class BoundsHallTest {
         hallEmptiesTheText();
         hallBeginsAnew();
         hallWithAFault();
+        hallsInTurns();
         faultOfTheLatest();
         toldBounds();
         partBounds();
@@ -173,6 +174,35 @@ public final class BoundsHallTest {
         Due.hall(other, "x");
         Due.hall(x, "x");
         Due.is("all is as it was " + when, State.of(x).equals(State.of(other)) ? 1 : 0, 1);
+    }
+
+    /** One object from hall to hall, over faults and changes: each hall is as it is for a new object. */
+    private static void hallsInTurns() {
+        Doc.says(3, "becomes THE HALL");
+        String[] texts = {"", FULLEST, "p0 0 0 5;", "p0 0 0 1;p0 1 0 1;", "p2 1 3 60,1,2,3;p3 0 1 60,1;s1 1;", "l3 30;l4 2;i1 1;c1 2 3;", "p3 0 0 1;"};
+        CadenzaEnds x = new CadenzaEnds();
+        for (int round = 0; round < 3 * texts.length * texts.length; round++) {
+            String text = texts[(round + round / texts.length * (round % 3)) % texts.length];
+            Due.hall(x, text);
+            CadenzaEnds fresh = Due.in(text);
+            x.seed(0);
+            Due.is("hall " + round + ", '" + text + "', is as for a new object", State.of(x).equals(State.of(fresh)) ? 1 : 0, 1);
+            for (int t = 0; t <= 420; t++) {
+                for (int what = 0; what < 3; what++) {
+                    Due.is("out(" + t + ", " + what + ") in hall " + round, x.out(t, what), fresh.out(t, what));
+                }
+                Due.is("by(" + t + ", 0) in hall " + round, x.by(t, 0), fresh.by(t, 0));
+                Due.is("isIt(" + t + ", 2, 1, 0) in hall " + round, x.isIt(t, 2, 1, 0), fresh.isIt(t, 2, 1, 0));
+            }
+            x.lead(x.told(1) > 0 ? 1 : 0);
+            x.costs(round % 21, 3, 4);
+            x.sign(round % 9, 5);
+            x.lags(0, 7, 7);
+            x.drift(3);
+            x.enter(0, 1);
+            x.write(0, 1);
+            Due.hall(x, "p1 1 1 1,1,1,1;l1 1;i2 2;s2 2;c2 2 2;x");
+        }
     }
 
     private static void faultOfTheLatest() {

@@ -33,10 +33,7 @@ public final class RulesTest {
         Class<?> type = CadenzaEnds.class;
         Due.is("public final", type.getModifiers() & (Modifier.PUBLIC | Modifier.FINAL), Modifier.PUBLIC | Modifier.FINAL);
         Set<String> due = new TreeSet<>(Set.of(FACE));
-        Set<String> names = new TreeSet<>();
-        for (String one : FACE) {
-            names.add(one.replaceAll("^\\w+ |\\(.*", ""));
-        }
+        Set<String> names = faceNames();
         for (Method method : type.getDeclaredMethods()) {
             String text = method.getReturnType().getSimpleName() + " " + method.getName() + parameters(method);
             if (Modifier.isPublic(method.getModifiers())) {
@@ -71,6 +68,14 @@ public final class RulesTest {
         return text.append(")").toString();
     }
 
+    private static Set<String> faceNames() {
+        Set<String> names = new TreeSet<>();
+        for (String one : FACE) {
+            names.add(one.replaceAll("^\\w+ |\\(.*", ""));
+        }
+        return names;
+    }
+
     private static void classes() {
         Class<?>[] inside = CadenzaEnds.class.getDeclaredClasses();
         Due.is("at most twelve classes", inside.length <= 11 ? 1 : 0, 1);
@@ -85,6 +90,8 @@ public final class RulesTest {
             Due.is(type.getName() + ": fields", fields <= 20 ? 1 : 0, 1);
             for (Method method : type.getDeclaredMethods()) {
                 Due.is(method + ": parameters", method.getParameterCount() <= 7 ? 1 : 0, 1);
+                boolean own = Modifier.isPrivate(method.getModifiers());
+                Due.is(method + " bears a public name", own && faceNames().contains(method.getName()) ? 1 : 0, 0);
             }
         }
     }

@@ -32,6 +32,31 @@ final class Texts {
         return text.toString();
     }
 
+    /** A sound text of up to four PARTS: few enough to list every cadenza. */
+    String sound() {
+        StringBuilder text = new StringBuilder();
+        int parts = random.nextInt(8) == 0 ? 0 : 1 + random.nextInt(4);
+        int longest = random.nextInt(3) == 0 ? 4 : 60;
+        for (int p = 0; p < parts; p++) {
+            boolean trill = p == parts - 1 && random.nextInt(3) > 0;
+            text.append('p').append(trill ? 3 : random.nextInt(3)).append(gap()).append(trill ? 0 : random.nextInt(8)).append(gap());
+            text.append(random.nextInt(12)).append(gap()).append(1 + random.nextInt(longest));
+            for (int more = random.nextInt(4); more > 0; more--) {
+                text.append(',').append(1 + random.nextInt(longest));
+            }
+            text.append(';');
+        }
+        for (int players = random.nextInt(4) == 0 ? 0 : 1 + random.nextInt(5); players > 0; players--) {
+            text.append('l').append(random.nextInt(31)).append(gap()).append(random.nextInt(31)).append(';');
+        }
+        for (int instruments = random.nextInt(6); instruments > 0; instruments--) {
+            text.append('i').append(random.nextInt(12)).append(gap()).append(random.nextInt(30)).append(';');
+        }
+        text.append(random.nextBoolean() ? "s" + random.nextInt(9) + gap() + random.nextInt(9) + ";" : "");
+        text.append(random.nextBoolean() ? "c" + random.nextInt(21) + gap() + random.nextInt(21) + gap() + random.nextInt(21) + ";" : "");
+        return text.toString();
+    }
+
     private String gap() {
         return random.nextInt(10) == 0 ? "  " : " ";
     }
