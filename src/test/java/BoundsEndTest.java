@@ -15,6 +15,7 @@ public final class BoundsEndTest {
     public static void main(String[] args) {
         cadenza();
         endsBounds();
+        sides();
         byBounds();
         meanBounds();
         edgeBounds();
@@ -22,6 +23,7 @@ public final class BoundsEndTest {
         isItBounds();
         isItLasts();
         isItShows();
+        isItSorts();
         isItAll();
         isItNone();
         goBounds();
@@ -100,6 +102,19 @@ public final class BoundsEndTest {
         ends(some, 10, 1, 4);
         ends(some, 30, 3, 4);
         ends(some, 11, 0, 1);
+    }
+
+    private static void sides() {
+        Doc.says(Doc.TERMS, "the end (t 0 .. 420; part 0 above, 1 below)");
+        CadenzaEnds x = Due.in("p2 3 0 60,60,60,1;".repeat(6) + "p3 0 0 60;");
+        for (int t : new int[] {0, 420}) {
+            Due.is("ends above, at " + t, x.ends(t, 0), t == 0 ? 0 : 11390625);
+            Due.is("ends below, at " + t, x.ends(t, 1), t == 0 ? 1 : 1073741824);
+            Due.is("by above, at " + t, x.by(t, 0), t == 0 ? 0 : 1);
+            Due.is("by below, at " + t, x.by(t, 1), 1);
+            Due.is("starts above, at " + t, x.starts(0, t, 0), t == 0 ? 5 : 0);
+            Due.is("starts below, at " + t, x.starts(0, t, 1), t == 0 ? 8 : 1);
+        }
     }
 
     private static void byBounds() {
@@ -252,6 +267,19 @@ public final class BoundsEndTest {
         x.sign(7, 1);
         isIt(x, 0, 0, 1, 7, 10);
         isIt(x, 0, 0, 0, 1, 22);
+    }
+
+    private static void isItSorts() {
+        Doc.says(Doc.TERMS, "SHOWN, NOT SHOWN: at SORTS 2, 3 by A, B, at their beginning; at others nothing is.");
+        for (int sort = 0; sort <= 3; sort++) {
+            CadenzaEnds x = Due.in("p" + sort + " 0 0 9;s4 4;");
+            for (int shown = 0; shown <= 2; shown++) {
+                int seen = shown;
+                long due = sort < 2 ? NOT : sort == 3 ? 1 : 0;
+                Due.refused(x, "isIt() of SORT " + sort, () -> x.isIt(0, 8, seen, 0), due);
+                Due.refused(x, "isIt() of SORT " + sort + " not at its beginning", () -> x.isIt(1, 7, seen, 0), NOT);
+            }
+        }
     }
 
     private static void isItAll() {

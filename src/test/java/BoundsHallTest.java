@@ -11,6 +11,8 @@ public final class BoundsHallTest {
 
     public static void main(String[] args) {
         refusalNumbers();
+        refusalsInOrder();
+        refusedChangesNothing();
         newObject();
         feedLetters();
         feedFull();
@@ -36,6 +38,66 @@ public final class BoundsHallTest {
         Due.is("FULL", FULL, -1000000004);
         Doc.says(Doc.TERMS, "NONE is -1.");
         Due.is("NONE", NONE, -1);
+    }
+
+    /** Two or three reasons at once, with everything full. */
+    private static void refusalsInOrder() {
+        Doc.says(Doc.TERMS, "UNKNOWN (a PART, PLAYER, IMAGE that there is not; one twice; bits of such), OUTSIDE (another number out of its bounds), "
+                + "NOT (not now, as told), FULL.");
+        CadenzaEnds x = full();
+        Due.refused(x, "part", () -> x.part(7, 4), UNKNOWN);
+        Due.refused(x, "player", () -> x.player(5, 2), UNKNOWN);
+        Due.refused(x, "instrument", () -> x.instrument(5, 2), UNKNOWN);
+        Due.refused(x, "lags", () -> x.lags(5, 31, 31), UNKNOWN);
+        Due.refused(x, "lead", () -> x.lead(32 + 31), UNKNOWN);
+        Due.refused(x, "starts", () -> x.starts(7, 421, 2), UNKNOWN);
+        Due.refused(x, "lost", () -> x.lost(7, 12), UNKNOWN);
+        Due.refused(x, "help", () -> x.help(7, 12), UNKNOWN);
+        Due.refused(x, "enter", () -> x.enter(5, 1000), UNKNOWN);
+        Due.refused(x, "write", () -> x.write(7, 61), UNKNOWN);
+        Due.refused(x, "enter", () -> x.enter(5, 0), UNKNOWN);
+        Due.refused(x, "write", () -> x.write(7, 0), UNKNOWN);
+        Due.refused(x, "goBack", () -> x.goBack(2), UNKNOWN);
+        Due.refused(x, "isIt", () -> x.isIt(419, 60, 3, 0), OUTSIDE);
+        Due.refused(x, "isIt", () -> x.isIt(419, 61, 2, 0), OUTSIDE);
+        Due.refused(x, "isIt", () -> x.isIt(419, 60, 2, 2), OUTSIDE);
+        Due.refused(x, "isIt", () -> x.isIt(419, 60, 2, 0), NOT);
+        Due.refused(x, "feed", () -> x.feed(256), OUTSIDE);
+        Due.refused(x, "enter", () -> x.enter(0, 1000), OUTSIDE);
+        Due.refused(x, "write", () -> x.write(0, 61), OUTSIDE);
+        Due.refused(x, "feed", () -> x.feed(' '), FULL);
+        Due.refused(x, "enter", () -> x.enter(0, 0), FULL);
+        Due.refused(x, "write", () -> x.write(0, 0), FULL);
+    }
+
+    private static CadenzaEnds full() {
+        CadenzaEnds x = changed();
+        for (int i = 0; i < 250; i++) {
+            x.feed(' ');
+            x.enter(1, i);
+            x.write(1, i % 61);
+        }
+        return x;
+    }
+
+    private static void refusedChangesNothing() {
+        Doc.says(Doc.TERMS, "What is refused changes nothing.");
+        CadenzaEnds x = full();
+        x.costs(7, 6, 5);
+        Due.refused(x, "feed", () -> x.feed('p'), FULL);
+        Due.refused(x, "costs", () -> x.costs(1, 1, 21), OUTSIDE);
+        Due.refused(x, "sign", () -> x.sign(1, 9), OUTSIDE);
+        Due.refused(x, "lags", () -> x.lags(0, 1, 31), OUTSIDE);
+        Due.refused(x, "lead", () -> x.lead(32), UNKNOWN);
+        Due.refused(x, "drift", () -> x.drift(100), OUTSIDE);
+        Due.refused(x, "enter", () -> x.enter(0, 0), FULL);
+        Due.refused(x, "write", () -> x.write(0, 0), FULL);
+        Due.refused(x, "seed", () -> x.seed(-1), OUTSIDE);
+        Due.refused(x, "keep", () -> x.keep(2), UNKNOWN);
+        Due.refused(x, "goBack", () -> x.goBack(2), UNKNOWN);
+        Due.is("goBack(0): the image is as it was", x.goBack(0), 1);
+        Due.is("E of the image", x.told(6), 1);
+        Due.is("hall(): the text is as it was", x.hall(), 0);
     }
 
     private static void newObject() {

@@ -11,6 +11,7 @@ public final class BoundsRecordsTest {
     public static void main(String[] args) {
         enterBounds();
         enterFull();
+        enterOneOften();
         firstInBounds();
         firstInLikeOnes();
         aheadBounds();
@@ -54,6 +55,17 @@ public final class BoundsRecordsTest {
         Due.is("ahead(999)", x.ahead(999), 12);
         x.tear();
         Due.is("enter() once torn", x.enter(0, 0), 1);
+    }
+
+    private static void enterOneOften() {
+        Doc.says(Doc.TERMS, "ENTRIES (12 at most): a PLAYER came in at tenth t.");
+        // one PLAYER, at one tenth or at several: twelve fit, though there are five PLAYERS at most
+        CadenzaEnds x = Due.in("l1 1;");
+        for (int i = 1; i <= 12; i++) {
+            Due.is("enter(0, 7) again", x.enter(0, i % 2 == 0 ? 7 : i), i);
+        }
+        Due.refused(x, "the 13th", () -> x.enter(0, 7), FULL);
+        Due.is("ahead(8)", x.ahead(8), 10);
     }
 
     private static void firstInBounds() {
@@ -125,6 +137,7 @@ public final class BoundsRecordsTest {
     }
 
     private static void writeFull() {
+        Doc.says(Doc.TERMS, "THE BOOK (20 at most) tells PART, LENGTH (0: left out), one behind the other");
         Doc.says(36, "FULL (20)");
         CadenzaEnds x = Due.in("p0 1 0 1;");
         for (int i = 1; i <= 20; i++) {
