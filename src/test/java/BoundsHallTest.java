@@ -1,3 +1,5 @@
+import java.util.List;
+
 /** The boundaries that promises 1 to 9 name: a new object, the text, the hall, what is told of it. */
 public final class BoundsHallTest {
     private static final int NONE = CadenzaEnds.NONE;
@@ -231,11 +233,8 @@ public final class BoundsHallTest {
         }
     }
 
-    /** All but the letter of the fault. */
     private static void alike(CadenzaEnds x, CadenzaEnds other, String when) {
-        Due.hall(other, "x");
-        Due.hall(x, "x");
-        Due.is("all is as it was " + when, State.of(x).equals(State.of(other)) ? 1 : 0, 1);
+        Due.is("all is as it was " + when, State.butFault(x).equals(State.butFault(other)) ? 1 : 0, 1);
     }
 
     /** One object from hall to hall, over faults and changes: each hall is as it is for a new object. */
@@ -263,7 +262,9 @@ public final class BoundsHallTest {
             x.drift(3);
             x.enter(0, 1);
             x.write(0, 1);
+            List<Long> was = State.butFault(x);
             Due.hall(x, "p1 1 1 1,1,1,1;l1 1;i2 2;s2 2;c2 2 2;x");
+            Due.is("a fault behind hall " + round + " changes nothing", was.equals(State.butFault(x)) ? 1 : 0, 1);
         }
     }
 

@@ -7,6 +7,13 @@ final class State {
     }
 
     static List<Long> of(CadenzaEnds x) {
+        List<Long> all = butFault(x);
+        all.add((long) x.fault());
+        return all;
+    }
+
+    /** All but the letter of the latest fault. */
+    static List<Long> butFault(CadenzaEnds x) {
         List<Long> all = new ArrayList<>();
         for (int what = 0; what < 14; what++) {
             all.add((long) x.told(what));
@@ -22,7 +29,6 @@ final class State {
         int seed = x.seed(0);
         x.seed(seed);
         all.add((long) seed);
-        all.add((long) x.fault());
         all.add((long) x.firstIn(0));
         all.add((long) x.firstIn(1));
         all.add((long) x.ahead(10));
