@@ -45,7 +45,6 @@ public final class CadenzaEnds {
         for (int i = 0; i < IMAGES; i++) {
             images[i] = new Agreed();
         }
-        endOdds.weigh(open);
     }
 
     // ---- the hall
@@ -940,10 +939,17 @@ public final class CadenzaEnds {
         final long[] tenths = new long[LAST_TENTH + 1];
         int parts;
 
-        void weigh(Hall hall) {
-            parts = Math.min(hall.parts, MOST_PARTS);
+        /** Without PARTS it ends at tenth 0; the first PART begins there in every hall, so this row is never weighed again. */
+        EndOdds() {
             begins[0][0] = 1;
             choices[0] = 1;
+            for (int t = 0; t <= LAST_TENTH; t++) {
+                ended[t] = 1;
+            }
+        }
+
+        void weigh(Hall hall) {
+            parts = Math.min(hall.parts, MOST_PARTS);
             int reach = 0;
             for (int p = 0; p < parts; p++) {
                 Part part = hall.row[p];

@@ -125,6 +125,25 @@ public final class BoundsHallTest {
         Due.is("seed", x.seed(1), 0);
         Due.is("goBack(0)", x.goBack(0), NOT);
         Due.is("goBack(1)", x.goBack(1), NOT);
+        newAsEmptied();
+    }
+
+    /** Every tenth of a new object is as with an empty text behind the fullest hall. */
+    private static void newAsEmptied() {
+        CadenzaEnds x = new CadenzaEnds();
+        CadenzaEnds emptied = full();
+        emptied.hall();
+        Due.is("hall() of an empty text", emptied.hall(), 0);
+        for (int t = 0; t <= 420; t++) {
+            for (int side = 0; side < 2; side++) {
+                Due.is("ends(" + t + ", " + side + ")", x.ends(t, side), emptied.ends(t, side));
+                Due.is("by(" + t + ", " + side + ")", x.by(t, side), emptied.by(t, side));
+                Due.is("go(" + t + ", " + side + ")", x.go(t, side), emptied.go(t, side));
+                Due.is("lift(" + t + ", 60, " + side + ")", x.lift(t, 60, side), emptied.lift(t, 60, side));
+            }
+            Due.odds("by(" + t + ")", x.by(t, 0), x.by(t, 1), 1, 1);
+            Due.odds("go(" + t + ")", x.go(t, 0), x.go(t, 1), 2L * t, 1);
+        }
     }
 
     private static void feedLetters() {

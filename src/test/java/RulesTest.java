@@ -25,7 +25,10 @@ public final class RulesTest {
     public static void main(String[] args) throws IOException {
         face();
         classes();
-        words(Files.readString(Path.of("src/main/java/CadenzaEnds.java")));
+        String source = Files.readString(Path.of("src/main/java/CadenzaEnds.java"));
+        words(source);
+        library(source);
+        constructors(source);
         Due.end("RulesTest");
     }
 
@@ -97,7 +100,7 @@ public final class RulesTest {
     }
 
     private static void words(String source) {
-        String code = source.replaceAll("(?s)/\\*.*?\\*/", "").replaceAll("//.*", "");
+        String code = bare(source);
         String never = "\\b(throw|throws|try|catch|synchronized|assert|import static|package|protected|volatile|native"
                 + "|Exact|Object|System\\.(?!arraycopy)\\w+|double|float)\\b|->|::|\\w+Exact\\b";
         Matcher found = Pattern.compile(never).matcher(code);
@@ -117,5 +120,32 @@ public final class RulesTest {
             Due.is("a method of over sixty lines: " + line, open == 1 && lines > 60 ? 1 : 0, 0);
             open = line.matches(" {4}( {4})?\\}") ? 0 : open;
         }
+    }
+
+    /** Rule 4: of the library only what stands there, and of that only what is used here. */
+    private static void library(String source) {
+        Set<String> fine = Set.of("Math.min", "Math.max", "Math.floorMod", "Integer.bitCount", "Arrays.fill");
+        Matcher used = Pattern.compile("\\b(Math|Integer|Long|Arrays|List|String|StringBuilder|ArrayList)\\b(\\.\\w+)?").matcher(bare(source));
+        while (used.find()) {
+            boolean imported = used.group().equals("Arrays");
+            Due.is(used.group() + " is of the library", imported || fine.contains(used.group()) ? 1 : 0, 1);
+        }
+    }
+
+    /** Rule 12: a constructor hands out nothing of what it makes: no call in it takes an argument. */
+    private static void constructors(String source) {
+        Matcher body = Pattern.compile("(?s)\n( {4}| {8})(?:public )?([A-Z]\\w+)\\([^)]*\\) \\{\n(.*?)\n\\1\\}").matcher(bare(source));
+        int found = 0;
+        while (body.find()) {
+            found++;
+            Matcher call = Pattern.compile("(?<!for |if )\\b(\\w+)\\([^)]").matcher(body.group(3));
+            Due.is("the constructor of " + body.group(2) + " hands out nothing", call.find() ? 1 : 0, 0);
+            Due.is("the constructor of " + body.group(2) + " keeps itself", body.group(3).matches("(?s).*\\bthis\\b(?!\\.).*") ? 1 : 0, 0);
+        }
+        Due.is("constructors that were looked at", found, 3);
+    }
+
+    private static String bare(String source) {
+        return source.replaceAll("(?s)/\\*.*?\\*/", "").replaceAll("//.*", "");
     }
 }
